@@ -300,8 +300,7 @@ public final class SeriesWatcher {
     }
 
     private int expectedNext() {
-        int level = division.levelAt(division.howMany() - 1);
-        return level + seasons.ofPhase(seasons.phaseOf(series.count()));
+        return division.lastLevel() + seasons.ofPhase(seasons.phaseOf(series.count()));
     }
 
     private int verdictWithin(int k, int bound) {
@@ -536,12 +535,15 @@ public final class SeriesWatcher {
         }
 
         int startAt(int segment) {
-            return segment < found ? starts.at(segment) : 0;
+            return starts.at(segment);
         }
 
-        /** The level of a segment; 0 of one that there is not. */
         int levelAt(int segment) {
-            return segment < found ? levels.at(segment) : 0;
+            return levels.at(segment);
+        }
+
+        int lastLevel() {
+            return found == 0 ? 0 : levels.at(found - 1);
         }
 
         int levelAtValue(int k) {

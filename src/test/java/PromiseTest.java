@@ -96,7 +96,8 @@ public final class PromiseTest {
         due("costCutAt(3): least length 2 at first", ILLEGAL, () -> least.costCutAt(3));
         due("costCutAt(2): least length 2 at first", 10100, () -> least.costCutAt(2));
         due("bound(): the floor at first", 1, x::bound);
-        due("bound(): the factor at first", 6, of(10, 12, 14)::bound);
+        due("bound(): the factor at first", 30000, of(-10000, 0, 10000)::bound);
+        due("bound(): the factor at first, rounded down", 300, of(-100, 0, 100)::bound);
     }
 
     private static void promise2Add() {
@@ -123,6 +124,11 @@ public final class PromiseTest {
         y.add(5);
         due("setHoliday(2) of a new value where a holiday was", false, () -> y.setHoliday(2, false));
         due("base()", 4, y::base);
+        SeriesWatcher asked = of(4);
+        due("expected() before add", 4, asked::expected);
+        asked.add(2);
+        due("expected() after add", 2, asked::expected);
+        due("base() after add", 2, asked::base);
     }
 
     private static void promise3AddMany() {
@@ -148,6 +154,10 @@ public final class PromiseTest {
         due("anomalies()", 0, y::anomalies);
         wrong("addMany(5, 1)", STATE, y, () -> y.addMany(5, 1));
         due("verdict(59): a working value", 0, () -> y.verdict(59));
+        SeriesWatcher asked = of(4);
+        due("expected() before addMany", 4, asked::expected);
+        asked.addMany(2, 2);
+        due("expected() after addMany", 2, asked::expected);
     }
 
     private static void promise4Correct() {
@@ -587,6 +597,10 @@ public final class PromiseTest {
         due("anomalies() beyond 1", 3, x::anomalies);
         x.setBound(100, 1000);
         due("anomalies() beyond 1000", 0, x::anomalies);
+        SeriesWatcher unasked = of(90, 10, 10, 10, -90);
+        due("anomalies(), asked first: the first and the last value", 2, unasked::anomalies);
+        unasked.correct(4, 10);
+        due("anomalies(), asked first after a change", 1, unasked::anomalies);
     }
 
     private static void promise27Expected() {
