@@ -274,7 +274,8 @@ public final class SeriesWatcher {
     private void findSegments() {
         findSeasons();
         if (!segmentsFound) {
-            division.find();
+            division.findCuts();
+            division.followCuts();
             segmentsFound = true;
         }
     }
@@ -560,13 +561,31 @@ public final class SeriesWatcher {
             return sorted.spreadAroundMedian();
         }
 
-        void find() {
+        void findCuts() {
             int count = series.count();
             // From the last start back to the first, as each needs the best divisions of what follows it.
             for (int start = count - 1; start >= 0; start--) {
                 findBestFrom(start, count);
             }
-            followCuts(count);
+        }
+
+        /** Takes down the segments of the best division, once its cuts are found. */
+        void followCuts() {
+            int count = series.count();
+            int start = 0;
+            found = 0;
+            while (start < count && found < MOST_VALUES) {
+                int end = firstEnds.at(start);
+                sortBetween(start, end);
+                int level = sorted.median();
+                starts.put(found, start);
+                levels.put(found, level);
+                for (int k = start; k < end; k++) {
+                    levelsOfValues.put(k, level);
+                }
+                start = end;
+                found++;
+            }
         }
 
         private void findBestFrom(int start, int count) {
@@ -596,23 +615,6 @@ public final class SeriesWatcher {
             restCosts.put(start, cost);
             restCuts.put(start, cuts);
             firstEnds.put(start, end);
-        }
-
-        private void followCuts(int count) {
-            int start = 0;
-            found = 0;
-            while (start < count && found < MOST_VALUES) {
-                int end = firstEnds.at(start);
-                sortBetween(start, end);
-                int level = sorted.median();
-                starts.put(found, start);
-                levels.put(found, level);
-                for (int k = start; k < end; k++) {
-                    levelsOfValues.put(k, level);
-                }
-                start = end;
-                found++;
-            }
         }
 
         private void sortBetween(int start, int end) {
