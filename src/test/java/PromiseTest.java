@@ -46,7 +46,10 @@ public final class PromiseTest {
         Checks.same("promise " + promise + ": " + call, Checks.outcome(made), due);
     }
 
-    /** A wrong call throws, and leaves every answer as it was. */
+    /**
+     * A wrong call throws, and leaves every answer as it was. It takes some 80 calls, so that one object
+     * has room for six of them: nothing is promised of an object after its 512th call.
+     */
     private static void wrong(String call, String due, SeriesWatcher x, Supplier<Object> made) {
         String before = portrait(x);
         due(call, due, made);
@@ -140,15 +143,16 @@ public final class PromiseTest {
         wrong("addMany(0, 61)", ILLEGAL, x, () -> x.addMany(0, 61));
         wrong("addMany(0, MIN)", ILLEGAL, x, () -> x.addMany(0, MIN));
         wrong("addMany(0, MAX)", ILLEGAL, x, () -> x.addMany(0, MAX));
-        due("addMany(-10000, 1)", 1, () -> x.addMany(-10000, 1));
-        due("addMany(10000, 3)", 4, () -> x.addMany(10000, 3));
-        due("value(0)", -10000, () -> x.value(0));
-        due("value(1)", 10000, () -> x.value(1));
-        due("value(3)", 10000, () -> x.value(3));
-        wrong("addMany(0, 57), one too many", STATE, x, () -> x.addMany(0, 57));
-        wrong("addMany(0, 61), wrong in both ways", ILLEGAL, x, () -> x.addMany(0, 61));
-        wrong("addMany(10001, 60), wrong in both ways", ILLEGAL, x, () -> x.addMany(10001, 60));
-        due("addMany(0, 56), the last ones", 60, () -> x.addMany(0, 56));
+        SeriesWatcher more = new SeriesWatcher();
+        due("addMany(-10000, 1)", 1, () -> more.addMany(-10000, 1));
+        due("addMany(10000, 3)", 4, () -> more.addMany(10000, 3));
+        due("value(0)", -10000, () -> more.value(0));
+        due("value(1)", 10000, () -> more.value(1));
+        due("value(3)", 10000, () -> more.value(3));
+        wrong("addMany(0, 57), one too many", STATE, more, () -> more.addMany(0, 57));
+        wrong("addMany(0, 61), wrong in both ways", ILLEGAL, more, () -> more.addMany(0, 61));
+        wrong("addMany(10001, 60), wrong in both ways", ILLEGAL, more, () -> more.addMany(10001, 60));
+        due("addMany(0, 56), the last ones", 60, () -> more.addMany(0, 56));
         SeriesWatcher y = new SeriesWatcher();
         due("addMany(5, 60)", 60, () -> y.addMany(5, 60));
         due("anomalies()", 0, y::anomalies);
@@ -478,11 +482,12 @@ public final class PromiseTest {
         wrong("costCutAt(-1)", NONE, x, () -> x.costCutAt(-1));
         wrong("costCutAt(MIN)", NONE, x, () -> x.costCutAt(MIN));
         wrong("costCutAt(MAX)", NONE, x, () -> x.costCutAt(MAX));
-        wrong("costCutAt(1)", ILLEGAL, x, () -> x.costCutAt(1));
-        wrong("costCutAt(6)", ILLEGAL, x, () -> x.costCutAt(6));
-        x.setCuts(1, 7);
-        due("costCutAt(6)", 187, () -> x.costCutAt(6));
-        due("costCutAt(1)", 275, () -> x.costCutAt(1));
+        SeriesWatcher again = of(1, 2, 3, 4, 90, 92, 95);
+        wrong("costCutAt(1)", ILLEGAL, again, () -> again.costCutAt(1));
+        wrong("costCutAt(6)", ILLEGAL, again, () -> again.costCutAt(6));
+        again.setCuts(1, 7);
+        due("costCutAt(6)", 187, () -> again.costCutAt(6));
+        due("costCutAt(1)", 275, () -> again.costCutAt(1));
         due("costCutAt(1) of one value", NONE, () -> of(5).costCutAt(1));
         due("costCutAt(1) of two values", ILLEGAL, () -> of(5, 5).costCutAt(1));
         due("costCutAt(0) of nothing", NONE, () -> new SeriesWatcher().costCutAt(0));
