@@ -230,7 +230,7 @@ public final class SeriesWatcher {
         return sideOf((long) value - expectedNext(), boundOfNow());
     }
 
-    // ---- what the calls above share
+    // What the calls above share.
 
     private static void requireBetween(int number, int lowest, int highest) {
         if (number < lowest || number > highest) {

@@ -18,6 +18,7 @@ public final class FormTest {
 
     public static void main(String[] args) throws IOException {
         Checks.same("the face", faceOfProgram(), faceOfDocument());
+        Checks.same("the headings ahead of the calls", headingsOfProgram(), headingsOfDocument());
         Checks.same("the class is final", Modifier.isFinal(SeriesWatcher.class.getModifiers()), true);
         Checks.same("members beside the face and the private ones", openMembers(), List.of());
         Checks.same("private methods with a public one's name", sharedNames(), List.of());
@@ -61,6 +62,34 @@ public final class FormTest {
             }
         }
         Collections.sort(lines);
+        return lines;
+    }
+
+    /** Each call of the document's face after its heading, where one is told, in the face's order. */
+    private static List<String> headingsOfDocument() throws IOException {
+        String document = Files.readString(DOCUMENT);
+        List<String> lines = new ArrayList<>();
+        Matcher call = Pattern.compile("(?m)^    public \\w+ (\\w+)\\(.*;$").matcher(document);
+        while (call.find()) {
+            Matcher heading = Pattern.compile("Ahead of the calls `" + call.group(1) + "`.*: (---- .*)\\.\n")
+                    .matcher(document);
+            if (heading.find()) {
+                lines.add(heading.group(1));
+            }
+            lines.add(call.group(1));
+        }
+        Checks.same("the document's headings are known", lines.stream().filter(line -> line.startsWith("----")).count(),
+                6);
+        return lines;
+    }
+
+    private static List<String> headingsOfProgram() throws IOException {
+        List<String> lines = new ArrayList<>();
+        Matcher line = Pattern.compile("(?m)^    (?:// (---- .*)|public \\w+ (\\w+)\\(.*\\{)$")
+                .matcher(Files.readString(PROGRAM));
+        while (line.find()) {
+            lines.add(line.group(1) == null ? line.group(2) : line.group(1));
+        }
         return lines;
     }
 

@@ -1,8 +1,5 @@
-import java.lang.reflect.InvocationTargetException;
 import java.lang.reflect.Method;
-import java.util.ArrayList;
 import java.util.Arrays;
-import java.util.Comparator;
 import java.util.List;
 import java.util.Random;
 
@@ -13,10 +10,8 @@ import java.util.Random;
 public final class RandomRunsTest {
     private static final int RUNS = 1500;
     private static final int MOST_CALLS = 512;
-    private static final List<Method> QUESTIONS = new ArrayList<>();
-    private static final List<Method> CHANGES = new ArrayList<>();
-    private static final List<String> CHANGING =
-            List.of("add", "addMany", "correct", "setHoliday", "drop", "setSeason", "setCuts", "setBound");
+    private static final List<Method> QUESTIONS = Calls.questions();
+    private static final List<Method> CHANGES = Calls.changes();
 
     private final Random random;
     private final SeriesWatcher watcher = new SeriesWatcher();
@@ -36,13 +31,6 @@ public final class RandomRunsTest {
     }
 
     public static void main(String[] args) {
-        for (Method method : SeriesWatcher.class.getDeclaredMethods()) {
-            if (java.lang.reflect.Modifier.isPublic(method.getModifiers())) {
-                (CHANGING.contains(method.getName()) ? CHANGES : QUESTIONS).add(method);
-            }
-        }
-        CHANGES.sort(Comparator.comparing(Method::getName));
-        QUESTIONS.sort(Comparator.comparing(Method::getName));
         for (int run = 0; run < RUNS && !Checks.tooManyWrong(); run++) {
             new RandomRunsTest(run).go();
         }
@@ -59,20 +47,9 @@ public final class RandomRunsTest {
             Object[] arguments = arguments(method);
             String name = method.getName() + Arrays.toString(arguments);
             told.append(name).append("; ");
-            String due = answer(naive, method, arguments);
-            String got = answer(watcher, method, arguments);
+            String due = Calls.answer(naive, method, arguments);
+            String got = Calls.answer(watcher, method, arguments);
             Checks.same("run " + run + ": " + (got.equals(due) ? name : told), got, due);
-        }
-    }
-
-    private static String answer(Object object, Method method, Object[] arguments) {
-        try {
-            Method own = object.getClass().getMethod(method.getName(), method.getParameterTypes());
-            return String.valueOf(own.invoke(object, arguments));
-        } catch (InvocationTargetException e) {
-            return "throws " + e.getCause().getClass().getName();
-        } catch (ReflectiveOperationException e) {
-            throw new IllegalStateException(e);
         }
     }
 
