@@ -656,7 +656,7 @@ public final class SeriesWatcher {
 
         /** The least cost of the values from start on, where depth cuts have been made before. */
         private static int leastFrom(int[] costs, int count, int shortest, int penalty, int start, int depth) {
-            if (start < 0 || start >= count || count > MOST_VALUES_TRIED || depth > MOST_VALUES_TRIED) {
+            if (start < 0 || start >= count || count > MOST_VALUES_TRIED || shortest < 1 || depth > count) {
                 return 0;
             }
             int row = start * ENDS;
